@@ -432,10 +432,7 @@ public final class FeetBridge {
         }
         int good = PLANKS - Integer.bitCount(bridge.unfit(walker));
         int common = commonDivisor(PLANKS, good);
-        if (n == 0 || common == 0) {
-            return 1;
-        }
-        return power((what == 0 ? good : PLANKS) / common, n);
+        return common == 0 ? 0 : power((what == 0 ? good : PLANKS) / common, n);
     }
 
     public int seed(int v) {
@@ -1080,11 +1077,12 @@ public final class FeetBridge {
 
     /** The tape, and what reads a text from it. */
     private static final class Reader {
-        private static final int END = 0;
+        private static final int BLANK = 0;
         private static final int WORD = 1;
         private static final int NUMBER = 2;
         private static final int SIGN = 3;
         private static final int ALIEN = 4;
+        private static final int END = 5;
 
         // The words of the kinds bear the numbers of the kinds.
         private static final int PLANK_WORD = 7;
@@ -1096,12 +1094,19 @@ public final class FeetBridge {
         private static final int OTHER_WORD = 13;
 
         private static final int TOO_MUCH = 1000;
+        private static final int MOST_TOKENS = TAPE_SIZE + 1;
 
         final int[] tape = new int[TAPE_SIZE];
         int size = 0;
-        int token = END;
-        int start = 0;
-        int end = 0;
+
+        final int[] sorts = new int[MOST_TOKENS];
+        final int[] starts = new int[MOST_TOKENS];
+        final int[] ends = new int[MOST_TOKENS];
+        final int[] values = new int[MOST_TOKENS];
+        int tokens = 0;
+
+        int at = 0;
+        int sort = END;
         int value = 0;
 
         void put(int v) {
@@ -1111,27 +1116,40 @@ public final class FeetBridge {
             }
         }
 
-        /** How many items there are, or -1 less the FAULT, which is always where the token begins. */
+        /** How many items there are, or -1 less the FAULT; a draft takes them. */
         int read(Bridge draft) {
-            end = 0;
-            next();
-            for (int items = 1; items <= TAPE_SIZE; items++) {
+            split();
+            nameWords();
+            look(0);
+            for (int items = 1; items < MOST_TOKENS; items++) {
                 if (!readItem(draft)) {
-                    return -1 - start;
+                    return -1 - place();
                 }
-                if (token == END) {
+                if (sort == END) {
                     return items;
                 }
-                if (token != SIGN) {
-                    return -1 - start;
+                if (sort != SIGN) {
+                    return -1 - place();
                 }
-                next();
+                look(at + 1);
             }
-            return -1 - start;
+            return -1 - place();
+        }
+
+        /** Where the token that is looked at begins: there is the FAULT, if it can't stand there. */
+        int place() {
+            return at >= 0 && at < tokens ? starts[at] : size;
+        }
+
+        void look(int token) {
+            at = token;
+            boolean isThere = token >= 0 && token < tokens && token < MOST_TOKENS;
+            sort = isThere ? sorts[token] : END;
+            value = isThere ? values[token] : 0;
         }
 
         boolean readItem(Bridge draft) {
-            if (token != WORD) {
+            if (sort != WORD) {
                 return false;
             }
             switch (value) {
@@ -1141,11 +1159,11 @@ public final class FeetBridge {
                     return readNew(draft);
                 case NIGHT_WORD:
                     draft.night = 1;
-                    next();
+                    look(at + 1);
                     return true;
                 case DAY_WORD:
                     draft.night = 0;
-                    next();
+                    look(at + 1);
                     return true;
                 default:
                     return readWalker(draft);
@@ -1159,163 +1177,169 @@ public final class FeetBridge {
             int kind = value;
             int gait = NEW_GAIT;
             int balance = NEW_BALANCE;
-            next();
+            look(at + 1);
             if (isWord(GAIT_WORD)) {
-                next();
+                look(at + 1);
                 if (!isNumber(TOP)) {
                     return false;
                 }
                 gait = value;
-                next();
+                look(at + 1);
             }
             if (isWord(BALANCE_WORD)) {
-                next();
+                look(at + 1);
                 if (!isNumber(TOP)) {
                     return false;
                 }
                 balance = value;
-                next();
+                look(at + 1);
             }
             draft.add(kind, gait, balance);
             return true;
         }
 
         boolean readPlank(Bridge draft) {
-            next();
+            look(at + 1);
             if (!isNumber(PLANKS - 1)) {
                 return false;
             }
             int plank = value;
-            next();
+            look(at + 1);
             if (!isNumber(TOP)) {
                 return false;
             }
             draft.keeps[plank] = value;
-            next();
+            look(at + 1);
             return true;
         }
 
         boolean readNew(Bridge draft) {
-            next();
+            look(at + 1);
             if (!isNumber(PLANKS - 1)) {
                 return false;
             }
             draft.keeps[value] = NEW_PLANK;
-            next();
+            look(at + 1);
             return true;
         }
 
         boolean isWord(int word) {
-            return token == WORD && value == word;
+            return sort == WORD && value == word;
         }
 
         boolean isNumber(int most) {
-            return token == NUMBER && value >= 0 && value <= most;
+            return sort == NUMBER && value >= 0 && value <= most;
         }
 
-        /** The next token; its begin is the tape's end if there is none. */
-        void next() {
-            start = end;
-            while (start < size && byteAt(start) == ' ') {
-                start++;
+        void split() {
+            tokens = 0;
+            int before = BLANK;
+            for (int i = 0; i < size && i < TAPE_SIZE; i++) {
+                int now = sortOf(tape[i]);
+                boolean goesOn = now == before && (now == WORD || now == NUMBER);
+                if (now != BLANK && !goesOn) {
+                    begin(now, i);
+                }
+                if (now != BLANK) {
+                    grow(tape[i]);
+                }
+                before = now;
             }
-            end = start;
-            if (start >= size) {
-                token = END;
-            } else if (isLetter(start)) {
-                readWord();
-            } else if (isDigit(start)) {
-                readNumber();
-            } else {
-                token = byteAt(start) == ';' ? SIGN : ALIEN;
-                end = start + 1;
+            begin(END, size);
+        }
+
+        static int sortOf(int v) {
+            if (v >= 'a' && v <= 'z') {
+                return WORD;
+            }
+            if (v >= '0' && v <= '9') {
+                return NUMBER;
+            }
+            if (v == ';') {
+                return SIGN;
+            }
+            return v == ' ' ? BLANK : ALIEN;
+        }
+
+        void begin(int newSort, int start) {
+            if (tokens >= 0 && tokens < MOST_TOKENS) {
+                sorts[tokens] = newSort;
+                starts[tokens] = start;
+                ends[tokens] = start;
+                values[tokens] = 0;
+                tokens++;
             }
         }
 
-        void readWord() {
-            token = WORD;
-            while (end < size && isLetter(end)) {
-                end++;
-            }
-            value = wordNumber();
-        }
-
-        void readNumber() {
-            token = NUMBER;
-            value = 0;
-            while (end < size && isDigit(end)) {
-                // Held, so that many digits can't wrap around to a small number.
-                value = Math.min(TOO_MUCH, value * 10 + byteAt(end) - '0');
-                end++;
+        void grow(int v) {
+            int last = tokens - 1;
+            if (last >= 0 && last < MOST_TOKENS) {
+                ends[last]++;
+                if (sorts[last] == NUMBER) {
+                    // Held, so that many digits can't wrap around to a small number.
+                    values[last] = Math.min(TOO_MUCH, values[last] * 10 + v - '0');
+                }
             }
         }
 
-        int wordNumber() {
-            if (spells("walker")) {
+        void nameWords() {
+            for (int i = 0; i < tokens && i < MOST_TOKENS; i++) {
+                if (sorts[i] == WORD) {
+                    values[i] = wordNumber(starts[i], ends[i]);
+                }
+            }
+        }
+
+        int wordNumber(int start, int end) {
+            if (spells(start, end, "walker")) {
                 return WALKER;
             }
-            if (spells("drunk")) {
+            if (spells(start, end, "drunk")) {
                 return DRUNK;
             }
-            if (spells("marcher")) {
+            if (spells(start, end, "marcher")) {
                 return MARCHER;
             }
-            if (spells("dancer")) {
+            if (spells(start, end, "dancer")) {
                 return DANCER;
             }
-            if (spells("mourner")) {
+            if (spells(start, end, "mourner")) {
                 return MOURNER;
             }
-            if (spells("calm")) {
+            if (spells(start, end, "calm")) {
                 return CALM;
             }
-            if (spells("carried")) {
+            if (spells(start, end, "carried")) {
                 return CARRIED;
             }
-            return otherWordNumber();
-        }
-
-        int otherWordNumber() {
-            if (spells("plank")) {
+            if (spells(start, end, "plank")) {
                 return PLANK_WORD;
             }
-            if (spells("new")) {
+            if (spells(start, end, "new")) {
                 return NEW_WORD;
             }
-            if (spells("night")) {
+            if (spells(start, end, "night")) {
                 return NIGHT_WORD;
             }
-            if (spells("day")) {
+            if (spells(start, end, "day")) {
                 return DAY_WORD;
             }
-            if (spells("gait")) {
+            if (spells(start, end, "gait")) {
                 return GAIT_WORD;
             }
-            return spells("balance") ? BALANCE_WORD : OTHER_WORD;
+            return spells(start, end, "balance") ? BALANCE_WORD : OTHER_WORD;
         }
 
-        boolean spells(String word) {
-            if (end - start != word.length()) {
+        boolean spells(int start, int end, String word) {
+            if (start < 0 || end > TAPE_SIZE || end - start != word.length()) {
                 return false;
             }
             for (int i = 0; i < word.length(); i++) {
-                if (byteAt(start + i) != word.charAt(i)) {
+                if (tape[start + i] != word.charAt(i)) {
                     return false;
                 }
             }
             return true;
-        }
-
-        int byteAt(int i) {
-            return i >= 0 && i < size && i < TAPE_SIZE ? tape[i] : 0;
-        }
-
-        boolean isLetter(int i) {
-            return byteAt(i) >= 'a' && byteAt(i) <= 'z';
-        }
-
-        boolean isDigit(int i) {
-            return byteAt(i) >= '0' && byteAt(i) <= '9';
         }
     }
 

@@ -280,6 +280,9 @@ public final class PromisesTest {
         x.change(2, 3, 5);
         due("now(1)", x.now(1), 620);
         due("now(2)", x.now(2), 2);
+        x.plank(2, 81);
+        due("now(2)", x.now(2), 3);
+        x.plank(2, 70);
         due("now(3)", x.now(3), 1);
         due("now(4)", x.now(4), 16);
         due("now(5)", x.now(5), 107);
@@ -399,6 +402,9 @@ public final class PromisesTest {
         due("balanceFor(4)", x.balanceFor(4), BEYOND);
         due("balanceFor(-1)", x.balanceFor(-1), BEYOND);
         due("of(0, 2)", x.of(0, 2), 30);
+        FeetBridge far = with(0, 0);
+        Due.keepAll(far, 99);
+        due("balanceFor(0)", far.balanceFor(0), 99);
         Due.part("promise 17");
         FeetBridge y = with(2, 50, 6, 50, 5, 0);
         due("gaits(0)", y.gaits(0), 41);
@@ -415,6 +421,10 @@ public final class PromisesTest {
         y.plank(5, 80);
         due("gaitFor(0)", y.gaitFor(0), 60);
         due("gaits(0)", y.gaits(0), 11);
+        y.change(0, 2, 10);
+        Due.keepAll(y, 99);
+        due("gaitFor(0)", y.gaitFor(0), 99);
+        due("gaits(0)", y.gaits(0), 1);
         due("gaitFor(3)", y.gaitFor(3), BEYOND);
         due("gaitFor(-1)", y.gaitFor(-1), BEYOND);
         due("of(0, 1)", y.of(0, 1), 50);
@@ -479,10 +489,30 @@ public final class PromisesTest {
         due("most() of either", z.most(), 1);
         due("fewest(3)", z.fewest(3), 1);
         due("now(0)", z.now(0), 0);
+        due("fewest(1) first", with(0, 50).fewest(1), 0);
+        due("orders(1) first", with(0, 50).orders(1), 1);
+        due("most() first", with(0, 50).most(), 1);
+        leastOfGreatest();
         FeetBridge all = with(5, 1, 5, 2, 5, 3, 5, 4, 5, 5, 5, 6);
         due("orders(63)", all.orders(63), 720);
         due("order(63, 5)", all.order(63, 5), 5);
         due("most()", all.most(), 63);
+    }
+
+    /** 0 and 2 are found ahead of 1 and 0, as 0 is the first to begin; but the set of 0 and 1 is less. */
+    private static void leastOfGreatest() {
+        FeetBridge x = with(2, 30, 2, 60, 2, 31);
+        x.change(0, 2, 45);
+        x.change(1, 2, 25);
+        x.change(2, 2, 20);
+        // 0 leaves 40, on which 2 just goes and 1 doesn't; behind 1, who leaves 55, it leaves 42: too much for 2.
+        due("order(5, 0)", x.order(5, 0), 0);
+        due("orders(5)", x.orders(5), 1);
+        due("order(3, 0)", x.order(3, 0), 1);
+        due("orders(3)", x.orders(3), 1);
+        due("orders(7)", x.orders(7), 0);
+        due("fewest(7)", x.fewest(7), 1);
+        due("most()", x.most(), 3);
     }
 
     private static void laidPlanks() {
@@ -519,6 +549,9 @@ public final class PromisesTest {
         z.plank(7, 50);
         due("best()", z.best(), 4);
         due("keeps(4)", z.keeps(4), 85);
+        FeetBridge one = with(2, 50);
+        one.plank(11, 99);
+        due("best()", one.best(), 11);
     }
 
     private static void takenAndSwayed() {
@@ -577,6 +610,21 @@ public final class PromisesTest {
         due("gait(1, 0)", x.gait(1, 0), MISSING);
         due("gait(4, 0)", x.gait(4, 0), BEYOND);
         due("gait(0, 3)", x.gait(0, 3), BEYOND);
+        x.change(1, 2, 10);
+        Due.keepAll(x, 99);
+        x.plank(1, 0);
+        x.write(0, 0, 98);
+        // 98 bears 0 on 99, so it falls at once, and nobody leaves 98.
+        due("gait(0, 1)", x.gait(0, 1), NONE);
+        x.change(1, 0, 6);
+        x.write(0, 0, 99);
+        x.change(1, 2, 99);
+        due("gait(0, 1)", x.gait(0, 1), 0);
+        Due.keepAll(x, 50);
+        due("gait(0, 1)", x.gait(0, 1), 99);
+        x.change(1, 0, 2);
+        x.change(1, 2, 30);
+        x.write(0, 0, 20);
         x.sheet(1, 8, 13);
         due("gait(1, 3)", x.gait(1, 3), BEYOND);
         due("gait(1, 0)", x.gait(1, 0), STATE);
@@ -588,6 +636,15 @@ public final class PromisesTest {
         due("who(0)", x.who(0), 7);
         x.write(0, 0, -2);
         due("who(0)", x.who(0), 0);
+        x.sheet(3, 8, 12);
+        due("who(3)", x.who(3), 0);
+        for (int i = 0; i < 12; i++) {
+            x.write(3, i, 20);
+        }
+        due("who(3)", x.who(3), 4);
+        due("fits(3, 2)", x.fits(3, 2), 100);
+        x.write(3, 11, 21);
+        due("who(3)", x.who(3), 0);
         due("who(1)", x.who(1), STATE);
         due("who(2)", x.who(2), MISSING);
         due("who(4)", x.who(4), BEYOND);
@@ -682,6 +739,9 @@ public final class PromisesTest {
         due("no walkers", Due.read(x, " night ; plank 11 99;plank11 0; plank 0 007 ;new 0;day ;plank 5 1;night"), 8);
         due("now(3)", x.now(3), 1);
         Due.dueRow("texts", x, 50, 50, 50, 50, 50, 1, 50, 50, 50, 50, 50, 0);
+        due("day", Due.read(x, "day;new 11;plank 0 1"), 3);
+        due("now(3)", x.now(3), 0);
+        Due.dueRow("texts", x, 1, 50, 50, 50, 50, 1, 50, 50, 50, 50, 50, 50);
         FeetBridge y = new FeetBridge();
         due("carried", Due.read(y, "carried gait 0;drunk gait99balance99;calm balance 0"), 3);
         due("of(0, 0)", y.of(0, 0), 6);
@@ -714,6 +774,10 @@ public final class PromisesTest {
         fault("night day", 6);
         fault("nights", 0);
         fault("Night", 0);
+        fault("nightz", 0);
+        fault("xight", 0);
+        fault("walker foo 5", 7);
+        fault("walker gait 5 foo 5", 14);
         fault("night\t", 5);
         fault("night;plank 1 2;plank", 21);
         fault("night;plank 1 2;plank ", 22);
@@ -872,6 +936,8 @@ public final class PromisesTest {
         dueLoaded(x, 0, 1, 1, 2, 3, 4);
         due("copy(0, 1, 0, 0, 4)", x.copy(0, 1, 0, 0, 4), 4);
         dueLoaded(x, 0, 1, 2, 3, 4, 4);
+        due("copy(1, 0, 0, 2, 3)", x.copy(1, 0, 0, 2, 3), 3);
+        dueLoaded(x, 0, 1, 2, 2, 3, 13);
         due("copy(0, 5, 1, 3, 0)", x.copy(0, 5, 1, 3, 0), 0);
         due("copy(0, 6, 1, 3, 0)", x.copy(0, 6, 1, 3, 0), BEYOND);
         due("copy(0, 0, 1, 4, 0)", x.copy(0, 0, 1, 4, 0), BEYOND);
