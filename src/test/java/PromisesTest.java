@@ -513,6 +513,10 @@ public final class PromisesTest {
         due("orders(7)", x.orders(7), 0);
         due("fewest(7)", x.fewest(7), 1);
         due("most()", x.most(), 3);
+        // 1 ahead of 2 is safe, 2 ahead of 1 isn't, and 0 never: 2 alone, tried last, is less but no greater.
+        FeetBridge y = with(0, 99, 2, 60, 6, 20);
+        due("orders(6)", y.orders(6), 1);
+        due("most()", y.most(), 6);
     }
 
     private static void laidPlanks() {
@@ -742,6 +746,10 @@ public final class PromisesTest {
         due("day", Due.read(x, "day;new 11;plank 0 1"), 3);
         due("now(3)", x.now(3), 0);
         Due.dueRow("texts", x, 1, 50, 50, 50, 50, 1, 50, 50, 50, 50, 50, 50);
+        due("a full tape", Due.read(x, "night;" + " ".repeat(111) + "day"), 2);
+        due("a full tape", Due.read(x, "new 3;" + " ".repeat(106) + "plank 11"), -121);
+        due("a full tape", Due.read(x, "new 3;" + " ".repeat(104) + "plank 5 77"), 2);
+        due("keeps(5)", x.keeps(5), 77);
         FeetBridge y = new FeetBridge();
         due("carried", Due.read(y, "carried gait 0;drunk gait99balance99;calm balance 0"), 3);
         due("of(0, 0)", y.of(0, 0), 6);
