@@ -278,29 +278,19 @@ public final class FeetBridge {
         if (!bridge.hasAll(walkers) || place < 0 || place >= Integer.bitCount(walkers)) {
             return tell(BEYOND);
         }
-        queue.begin(bridge);
-        return queue.findFirst(walkers, 0) ? queue.placed(place) : tell(NONE);
+        return queue.findOrder(bridge, walkers) ? queue.placed(place) : tell(NONE);
     }
 
     public int orders(int walkers) {
-        if (!bridge.hasAll(walkers)) {
-            return tell(BEYOND);
-        }
-        queue.begin(bridge);
-        return queue.countSafe(walkers, 0);
+        return bridge.hasAll(walkers) ? queue.countOrders(bridge, walkers) : tell(BEYOND);
     }
 
     public int fewest(int walkers) {
-        if (!bridge.hasAll(walkers)) {
-            return tell(BEYOND);
-        }
-        queue.begin(bridge);
-        return queue.fewestFalls(walkers, 0);
+        return bridge.hasAll(walkers) ? queue.countFalls(bridge, walkers) : tell(BEYOND);
     }
 
     public int most() {
-        queue.begin(bridge);
-        return queue.greatest(0, 0, 0);
+        return queue.findGreatest(bridge);
     }
 
     // ---- planks laid new
@@ -805,34 +795,35 @@ public final class FeetBridge {
             }
         }
 
-        static int stepped(int kind, int gait, int plank) {
+        /** How much more its gait becomes on a plank. */
+        static int sway(int kind, int gait, int plank) {
             int more = plank - gait;
             switch (kind) {
                 case DRUNK:
-                    return held(gait + more / 2);
+                    return more / 2;
                 case CARRIED:
                 case MARCHER:
-                    return gait;
+                    return 0;
                 case DANCER:
-                    return held(gait + more / 10 + 1);
+                    return more / 10 + 1;
                 case MOURNER:
-                    return held(gait + more / 10 - 1);
+                    return more / 10 - 1;
                 case CALM:
-                    return gait > CALM_GAIT ? Math.max(CALM_GAIT, gait - 5) : Math.min(CALM_GAIT, gait + 5);
+                    return Math.max(-5, Math.min(5, CALM_GAIT - gait));
                 default:
-                    return held(gait + more / 4);
+                    return more / 4;
             }
         }
 
-        static int leftBehind(int kind, int gait, int plank) {
+        static int footprint(int kind, int gait, int plank) {
             switch (kind) {
                 case DRUNK:
-                    return held(gait + 5);
+                    return gait + 5;
                 case MARCHER:
                     return (gait + plank) / 2;
                 case DANCER:
                 case MOURNER:
-                    return held((gait + plank) / 2 + 3);
+                    return (gait + plank) / 2 + 3;
                 case CALM:
                     return CALM_GAIT;
                 default:
@@ -979,8 +970,8 @@ public final class FeetBridge {
                     gait = ahead;
                     return i;
                 }
-                planks[i] = Kinds.leftBehind(kind, gait, plank);
-                gait = Kinds.stepped(kind, gait, plank);
+                planks[i] = held(Kinds.footprint(kind, gait, plank));
+                gait = held(gait + Kinds.sway(kind, gait, plank));
             }
             return PLANKS;
         }
@@ -993,17 +984,37 @@ public final class FeetBridge {
         final int[][] rows = new int[WALKERS + 1][PLANKS];
         final int[] places = new int[WALKERS];
 
-        void begin(Bridge now) {
-            bridge.become(now);
-            System.arraycopy(bridge.keeps, 0, rows[0], 0, PLANKS);
+        boolean findOrder(Bridge now, int set) {
+            begin(now);
+            return findFirst(set, 0);
+        }
+
+        int countOrders(Bridge now, int set) {
+            begin(now);
+            return countSafe(set, 0);
+        }
+
+        int countFalls(Bridge now, int set) {
+            begin(now);
+            return fewestFalls(set, 0);
+        }
+
+        int findGreatest(Bridge now) {
+            begin(now);
+            return greatest(0, 0, 0);
         }
 
         int placed(int place) {
             return place >= 0 && place < WALKERS ? places[place] : NOBODY;
         }
 
+        private void begin(Bridge now) {
+            bridge.become(now);
+            System.arraycopy(bridge.keeps, 0, rows[0], 0, PLANKS);
+        }
+
         /** Row depth + 1 becomes what one leaves who finds row depth. */
-        boolean crosses(int walker, int depth) {
+        private boolean crosses(int walker, int depth) {
             if (depth < 0 || depth >= WALKERS) {
                 return false;
             }
@@ -1012,7 +1023,7 @@ public final class FeetBridge {
             return walk.go(rows[depth + 1]) == PLANKS;
         }
 
-        boolean findFirst(int left, int depth) {
+        private boolean findFirst(int left, int depth) {
             if (left == 0 || depth >= WALKERS) {
                 return true;
             }
@@ -1027,7 +1038,7 @@ public final class FeetBridge {
             return false;
         }
 
-        int countSafe(int left, int depth) {
+        private int countSafe(int left, int depth) {
             if (left == 0 || depth >= WALKERS) {
                 return 1;
             }
@@ -1040,7 +1051,7 @@ public final class FeetBridge {
             return many;
         }
 
-        int fewestFalls(int left, int depth) {
+        private int fewestFalls(int left, int depth) {
             if (left == 0 || depth >= WALKERS) {
                 return 0;
             }
@@ -1054,7 +1065,7 @@ public final class FeetBridge {
             return least;
         }
 
-        int greatest(int crossed, int sofar, int depth) {
+        private int greatest(int crossed, int sofar, int depth) {
             int great = greater(crossed, sofar);
             if (depth >= WALKERS) {
                 return great;
@@ -1069,7 +1080,7 @@ public final class FeetBridge {
             return great;
         }
 
-        static int greater(int a, int b) {
+        private static int greater(int a, int b) {
             int more = Integer.bitCount(a) - Integer.bitCount(b);
             return more > 0 || (more == 0 && a < b) ? a : b;
         }
