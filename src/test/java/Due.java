@@ -31,6 +31,10 @@ final class Due {
         due(what, so ? 1 : 0, 1);
     }
 
+    static int asked() {
+        return asked;
+    }
+
     static void end() {
         System.out.println(asked + " answers, " + wrong + " of them not as due");
         if (wrong != 0 || asked == 0) {
