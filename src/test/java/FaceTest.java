@@ -93,7 +93,17 @@ public final class FaceTest {
             Due.holds("no '" + part + "'", !bare.contains(part));
         }
         Due.holds("signs 1 to 127", text.chars().allMatch(c -> c > 0 && c < 128));
+        makesInFieldsAlone(bare);
         methodLengths(text);
+    }
+
+    /** Rule 12 counts what a run makes: so that no call makes anything, all rows are made with the object. */
+    private static void makesInFieldsAlone(String bare) {
+        for (String line : bare.split("\n")) {
+            if (line.matches(".*\\bnew\\b.*")) {
+                Due.holds("'" + line.trim() + "' is a field", line.matches(" +(private )?final [\\w\\[\\]]+ \\w+ = new .*;"));
+            }
+        }
     }
 
     private static void methodLengths(String text) {

@@ -4,6 +4,7 @@ import java.util.ArrayList;
 import java.util.HashMap;
 import java.util.List;
 import java.util.Map;
+import java.util.Set;
 
 /**
  * An object under test together with all calls that it has had, written as in the document: "plank(3, 99)".
@@ -27,6 +28,10 @@ final class Run {
         return face;
     }
 
+    static Set<String> names() {
+        return FACE.keySet();
+    }
+
     static Run with(String... calls) {
         return new Run().does(calls);
     }
@@ -37,7 +42,7 @@ final class Run {
         String[] parts = inside.isEmpty() ? new String[0] : inside.split(", *");
         Object[] given = new Object[parts.length];
         for (int i = 0; i < parts.length; i++) {
-            given[i] = Integer.valueOf(parts[i]);
+            given[i] = Integer.decode(parts[i]);
         }
         try {
             return ((Number) FACE.get(call.substring(0, open)).invoke(x, given)).longValue();
